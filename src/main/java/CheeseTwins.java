@@ -35,8 +35,6 @@ public final class CheeseTwins {
     private final History history = new History();
     private final Line line = new Line();
     private final Orders orders = new Orders();
-    private final char[] input = new char[MOST_SIGNS];
-    private int inputLength = 0;
     private int lastError = -1;
     private boolean hasSnapshot = false;
     private int reason = 0;
@@ -247,17 +245,16 @@ public final class CheeseTwins {
     }
 
     public int append(char c) throws IllegalStateException {
-        if (inputLength < 0 || inputLength >= MOST_SIGNS) {
+        if (orders.isFull()) {
             throw new IllegalStateException("the input is full");
         }
-        input[inputLength] = c;
-        inputLength++;
-        return inputLength;
+        orders.addSign(c);
+        return orders.length;
     }
 
     public int run() throws IllegalArgumentException, UnsupportedOperationException {
-        lastError = orders.read(input, inputLength);
-        inputLength = 0;
+        lastError = orders.read();
+        orders.clearText();
         if (lastError >= 0) {
             throw new IllegalArgumentException("the text has an error");
         }
@@ -314,7 +311,7 @@ public final class CheeseTwins {
             case 8:
                 return board.pieces.way;
             case 9:
-                return inputLength;
+                return orders.length;
             case 10:
                 return history.count;
             default:
@@ -1202,14 +1199,14 @@ public final class CheeseTwins {
         }
     }
 
-    /** The orders of a text: what each is, and its numbers. */
+    /** The input, and the orders that were read from it: what each is, and its numbers. */
     private static final class Orders {
         private final int[] kinds = new int[MOST_ORDERS];
         private final int[] firsts = new int[MOST_ORDERS];
         private final int[] seconds = new int[MOST_ORDERS];
         int count = 0;
-        private char[] text = new char[0];
-        private int length = 0;
+        private final char[] text = new char[MOST_SIGNS];
+        int length = 0;
         private int at = 0;
         private int number = 0;
 
@@ -1229,10 +1226,23 @@ public final class CheeseTwins {
             return order >= 0 && order < count && order < MOST_ORDERS;
         }
 
-        /** Reads a text; returns its error position, or -1. */
-        int read(char[] newText, int newLength) {
-            text = newText;
-            length = newLength;
+        boolean isFull() {
+            return length >= MOST_SIGNS;
+        }
+
+        void addSign(char sign) {
+            if (length >= 0 && length < MOST_SIGNS) {
+                text[length] = sign;
+                length++;
+            }
+        }
+
+        void clearText() {
+            length = 0;
+        }
+
+        /** Reads the input; returns its error position, or -1. */
+        int read() {
             at = 0;
             count = 0;
             for (int order = 0; order < MOST_ORDERS; order++) {
@@ -1320,7 +1330,7 @@ public final class CheeseTwins {
 
         /** Returns the character at the place, or -1 behind the text. */
         private int sign() {
-            return at >= 0 && at < length && at < text.length ? text[at] : -1;
+            return at >= 0 && at < length && at < MOST_SIGNS ? text[at] : -1;
         }
     }
 }
