@@ -1,4 +1,5 @@
 import java.util.NoSuchElementException;
+import java.util.function.Supplier;
 
 /** What the tests share: counting wrong answers, calls that must throw, and a picture of an object's state. */
 final class Check {
@@ -6,12 +7,30 @@ final class Check {
         void make();
     }
 
+    interface Use {
+        void on(CheeseTwins x);
+    }
+
+    interface NumberUse {
+        void on(CheeseTwins x, int number);
+    }
+
+    private static int asked = 0;
     private static int wrong = 0;
 
     private Check() {
     }
 
+    static int countAsked() {
+        return asked;
+    }
+
+    static int countWrong() {
+        return wrong;
+    }
+
     static void same(String what, Object got, Object due) {
+        asked++;
         if (!got.equals(due)) {
             wrong++;
             System.out.println(what + " answered " + got + ", due is " + due);
@@ -49,6 +68,108 @@ final class Check {
         same(what + ": the detail", x.refusal(true), detail);
     }
 
+    /**
+     * An object on which each order has been carried out, with all that is no part of the board, too: a snapshot of the
+     * new board, a map as its line, the error position 1, a refusal for reason 4 with the detail 0, and an input.
+     */
+    static CheeseTwins prepared(String orders, String input) {
+        CheeseTwins x = new CheeseTwins();
+        x.save();
+        carryOut(x, orders);
+        x.map();
+        type(x, "w");
+        fails("a text that ends too early", IllegalArgumentException.class, x::run);
+        fails("giveAll(98)", UnsupportedOperationException.class, () -> x.giveAll(98));
+        type(x, input);
+        return x;
+    }
+
+    /** The call must throw exactly this exception, and change nothing that can be seen, now or behind undo and restore. */
+    static void idle(String what, String orders, Class<? extends RuntimeException> due, Use use) {
+        idleWithInput(what, orders, "l97:1", due, use);
+    }
+
+    static void idleWithInput(String what, String orders, String input, Class<? extends RuntimeException> due, Use use) {
+        CheeseTwins x = prepared(orders, input);
+        fails(what, due, () -> use.on(x));
+        same(what + ": the reason", reasonOf(x), "4,0");
+        same(what + ": the error position", x.errorPosition(), 1);
+        same(what + ": the state", everythingOf(x), everythingOf(prepared(orders, input)));
+    }
+
+    /** The call must be refused for this reason, and change nothing else, now or behind undo and restore. */
+    static void idleRefusal(String what, String orders, int reason, int detail, Use use) {
+        CheeseTwins x = prepared(orders, "l97:1");
+        fails(what, UnsupportedOperationException.class, () -> use.on(x));
+        same(what + ": the reason", reasonOf(x), reason + "," + detail);
+        same(what + ": the error position", x.errorPosition(), 1);
+        same(what + ": the state", everythingOf(x), everythingOf(prepared(orders, "l97:1")));
+    }
+
+    /** The text must be refused for this reason, have no error, and change nothing else but the input. */
+    static void refusedRun(String orders, String text, int reason, int detail) {
+        CheeseTwins x = prepared(orders, text);
+        fails("run of " + text, UnsupportedOperationException.class, x::run);
+        same("the reason of " + text, reasonOf(x), reason + "," + detail);
+        checkIdleRun(x, orders, text, -1);
+    }
+
+    /** The text must fail, with this error position, or -1, and change nothing else but the input. */
+    static void failedRun(String orders, String text, int position) {
+        CheeseTwins x = prepared(orders, text);
+        fails("run of " + text, IllegalArgumentException.class, x::run);
+        same("the reason behind " + text, reasonOf(x), "4,0");
+        checkIdleRun(x, orders, text, position);
+    }
+
+    private static void checkIdleRun(CheeseTwins x, String orders, String text, int position) {
+        same("the error position of " + text, x.errorPosition(), position);
+        same("the state behind " + text, everythingOf(x), everythingOf(prepared(orders, "")));
+    }
+
+    /** The numbers from the least to the greatest are taken; those beyond throw this exception and change nothing. */
+    static void range(String what, String orders, int least, int greatest, Class<? extends RuntimeException> due, NumberUse use) {
+        for (int taken = least; taken <= greatest; taken++) {
+            takes(what, orders, taken, use);
+        }
+        int[] beyond = {least - 1, greatest + 1, least - 2, greatest + 2, least - 64, greatest + 64, Integer.MIN_VALUE,
+            Integer.MIN_VALUE + 1, Integer.MAX_VALUE, Integer.MAX_VALUE - 1, 1 << 16, -(1 << 16)};
+        for (int number : beyond) {
+            idle(what + " with " + number, orders, due, x -> use.on(x, number));
+        }
+    }
+
+    static void takes(String what, String orders, int number, NumberUse use) {
+        CheeseTwins x = after(orders);
+        String got = "nothing";
+        try {
+            use.on(x, number);
+        } catch (RuntimeException e) {
+            got = e.getClass().getName();
+        }
+        same(what + " with " + number + " throws", got, "nothing");
+    }
+
+    /** All that can be seen of an object but its reason and its error position; the object is used up by it. */
+    static String everythingOf(CheeseTwins x) {
+        StringBuilder all = new StringBuilder(pictureOf(x));
+        all.append(signsOf(x));
+        while (x.account(10) > 0) {
+            all.append("\nundo ").append(x.undo()).append(' ').append(pictureOf(x));
+        }
+        all.append("\nrestore ").append(answerOf(x::restore)).append(' ').append(pictureOf(x));
+        all.append("\nrun ").append(answerOf(x::run)).append(' ').append(pictureOf(x));
+        return all.toString();
+    }
+
+    private static String answerOf(Supplier<Integer> call) {
+        try {
+            return call.get().toString();
+        } catch (RuntimeException e) {
+            return e.getClass().getName();
+        }
+    }
+
     /** All that changes can change, and the accounts. */
     static String pictureOf(CheeseTwins x) {
         StringBuilder picture = new StringBuilder();
@@ -68,6 +189,13 @@ final class Check {
             picture.append("/ ").append(x.pieceOf(unit, 0)).append(' ').append(x.pieceOf(unit, 2)).append(' ');
         }
         return picture.append(x.isWell() ? "well " : "ill ").toString();
+    }
+
+    /** The picture without the number of changes that can be undone. */
+    static String boardOf(CheeseTwins x) {
+        String[] numbers = pictureOf(x).split(" ", 12);
+        numbers[10] = "";
+        return String.join(" ", numbers);
     }
 
     /** The characters of the line as it was written last. */
@@ -114,11 +242,19 @@ final class Check {
     /** An object on which a text of any length has been carried out order by order. */
     static CheeseTwins after(String text) {
         CheeseTwins x = new CheeseTwins();
-        for (String order : text.split(";")) {
-            type(x, order);
-            x.run();
-        }
+        carryOut(x, text);
         return x;
+    }
+
+    /** Carries out a text of any length, which may be empty, order by order. */
+    static void carryOut(CheeseTwins x, String text) {
+        for (int from = 0; from < text.length(); ) {
+            int semicolon = text.indexOf(';', from);
+            int end = semicolon < 0 ? text.length() : semicolon;
+            type(x, text.substring(from, end));
+            x.run();
+            from = end + 1;
+        }
     }
 
     static void end() {

@@ -55,24 +55,16 @@ public final class UndoTest {
         Check.failsIdle("undo", x, STATE, x::undo);
         String[] pictures = new String[CHANGES.length + 1];
         for (int i = 0; i < CHANGES.length; i++) {
-            pictures[i] = stateOf(x);
+            pictures[i] = Check.boardOf(x);
             Check.type(x, CHANGES[i]);
             x.run();
             Check.same("changes", x.account(10), Math.min(i + 1, 8));
         }
         for (int left = 7; left >= 0; left--) {
             Check.same("undo", x.undo(), left);
-            Check.same("undo: state", stateOf(x), pictures[CHANGES.length - 8 + left]);
+            Check.same("undo: state", Check.boardOf(x), pictures[CHANGES.length - 8 + left]);
         }
         Check.failsIdle("undo of a ninth", x, STATE, x::undo);
-    }
-
-    /** The picture without the number of changes that can be undone. */
-    private static String stateOf(CheeseTwins x) {
-        String picture = Check.pictureOf(x);
-        String[] numbers = picture.split(" ", 12);
-        numbers[10] = "";
-        return String.join(" ", numbers);
     }
 
     private static void undoGoesOn() {
@@ -116,7 +108,7 @@ public final class UndoTest {
         CheeseTwins x = Check.after("l1:10;l2:20;q3:30;q4:40;w1");
         Check.failsIdle("restore", x, STATE, x::restore);
         x.save();
-        String saved = stateOf(x);
+        String saved = Check.boardOf(x);
         x.giveAll(1);
         x.way(2);
         x.forget(0);
@@ -125,17 +117,17 @@ public final class UndoTest {
         Check.type(x, "x");
         Check.fails("run", IllegalArgumentException.class, x::run);
         Check.same("restore", x.restore(), 2);
-        Check.same("restore: state", stateOf(x), saved);
+        Check.same("restore: state", Check.boardOf(x), saved);
         Check.same("restore: the line", Check.signsOf(x), line);
         Check.same("restore: the error position", x.errorPosition(), 0);
         Check.same("restore: changes", x.account(10), 0);
         Check.failsIdle("undo behind restore", x, STATE, x::undo);
         x.give(0);
         x.undo();
-        Check.same("undo of a change behind restore", stateOf(x), saved);
+        Check.same("undo of a change behind restore", Check.boardOf(x), saved);
         x.giveAll(2);
         x.restore();
-        Check.same("restore again", stateOf(x), saved);
+        Check.same("restore again", Check.boardOf(x), saved);
         Check.type(x, "w0");
         x.restore();
         Check.same("restore: the input", x.run(), 1);
