@@ -117,6 +117,30 @@ final class BoundsOfTexts {
         texts("l1:1;q2:2;r0:3;w1;g0;n2", "", 6, "64.");
         texts(TWENTY, "", 20, "64.");
         texts(SIXTY, "", 19, "64=0");
+        for (int way = 0; way <= 2; way++) {
+            String orders = SIXTEEN_OF_1 + ";g3;g4" + (way == 0 ? "" : ";w" + way) + ";q20:64";
+            asMethod("l99:5", orders, x -> x.lend(99, 5));
+            asMethod("q99:5", orders, x -> x.ask(99, 5));
+            asMethod("q99:64", orders, x -> x.ask(99, 64));
+            asMethod("g13", orders, x -> x.give(13));
+            asMethod("n13", orders, x -> x.giveAll(13));
+            asMethod("r0:9", orders, x -> x.resize(0, 9));
+            asMethod("r13:9", orders, x -> x.resize(13, 9));
+            asMethod("r1:32;r1:3", orders, x -> {
+                x.resize(1, 32);
+                x.resize(1, 3);
+            });
+            int other = (way + 1) % 3;
+            asMethod("w" + other, orders, x -> x.way(other));
+        }
+    }
+
+    /** The text leaves the board as the method does. */
+    private static void asMethod(String text, String orders, Check.Use method) {
+        CheeseTwins x = Check.after(orders + ";" + text);
+        CheeseTwins y = Check.after(orders);
+        method.on(y);
+        Check.same("behind " + orders + ", the text " + text, Check.boardOf(x), Check.boardOf(y));
     }
 
     /** Carries a text out behind other orders: how many orders it has, 0 if it cannot be carried out, and the line then. */
