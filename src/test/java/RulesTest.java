@@ -19,7 +19,10 @@ import java.util.spi.ToolProvider;
 /** The face of the class, and what ../shared/LANGUAGE.md asks of its source, as far as it can be seen from outside. */
 public final class RulesTest {
     private static final Path SOURCE = Path.of("src/main/java/CheeseTwins.java");
+    private static final Path DOCUMENT = Path.of("../shared/DOC.md");
     private static final int DEEPEST = 8;
+    // The head of a method in what javap writes.
+    private static final Pattern HEAD = Pattern.compile("^  (?:\\S.* )?([\\w$]+)\\(.*\\).*;$");
     private static final Set<String> FACE = Set.of("int lend(int,int)", "int ask(int,int)", "int give(int)", "int giveAll(int)",
         "int resize(int,int)", "int way(int)", "int forget(int)", "int loanOf(int,int)", "int nameOf(int,int)",
         "int waitingOf(int,int)", "int pieceOf(int,int)", "int free(int,boolean)", "int greatest()", "int would(int)",
@@ -33,8 +36,13 @@ public final class RulesTest {
 
     public static void main(String[] args) throws IOException {
         face();
+        declarations();
         source();
         depth();
+        made(CheeseTwins.class);
+        for (Class<?> inner : CheeseTwins.class.getDeclaredClasses()) {
+            made(inner);
+        }
         Check.end();
     }
 
@@ -73,6 +81,19 @@ public final class RulesTest {
             types.append(types.length() > 0 ? "," : "").append(type.getSimpleName());
         }
         return method.getReturnType().getSimpleName() + " " + method.getName() + "(" + types + ")";
+    }
+
+    /** The face as the document writes it, with the names of the parameters and all that is thrown, and nothing else. */
+    private static void declarations() throws IOException {
+        String source = Files.readString(SOURCE).replaceAll("\\s+", " ");
+        Matcher declaration = Pattern.compile("(?m)^    (public .*);$").matcher(Files.readString(DOCUMENT));
+        int count = 0;
+        while (declaration.find()) {
+            Check.same("the source has " + declaration.group(1), source.contains(" " + declaration.group(1) + " {"), true);
+            count++;
+        }
+        Check.same("a constructor and the methods", count, 1 + FACE.size());
+        Check.same("what is public, with the class", source.split("\\bpublic ", -1).length - 1, 1 + count);
     }
 
     private static void source() throws IOException {
@@ -124,16 +145,33 @@ public final class RulesTest {
         return calls;
     }
 
-    private static void collectCalls(Class<?> type, Map<String, Set<String>> calls) {
+    /** All rows are made in constructors: a call makes nothing but the exception that it throws. */
+    private static void made(Class<?> type) {
+        Pattern making = Pattern.compile(": (?:(?:a|multia)?newarray|invokedynamic|new +#\\d+ +// class (?!java/.*Exception$))");
+        String method = "";
+        for (String row : codeOf(type).split("\n")) {
+            Matcher heading = HEAD.matcher(row);
+            if (heading.find()) {
+                method = heading.group(1);
+            } else if (!method.equals(type.getName())) {
+                Check.same(type.getName() + "." + method + " makes:" + row, making.matcher(row).find(), false);
+            }
+        }
+    }
+
+    private static String codeOf(Class<?> type) {
         StringWriter text = new StringWriter();
         PrintWriter out = new PrintWriter(text);
         String path = System.getProperty("java.class.path") + "/" + type.getName() + ".class";
         ToolProvider.findFirst("javap").orElseThrow().run(out, out, "-c", "-p", path);
-        Pattern head = Pattern.compile("^  \\S.*?([\\w$]+)\\(.*\\).*;$");
+        return text.toString();
+    }
+
+    private static void collectCalls(Class<?> type, Map<String, Set<String>> calls) {
         Pattern call = Pattern.compile("// Method (?:(CheeseTwins[\\w$]*)\\.)?(\\w+|\"<init>\"):");
         Set<String> called = new TreeSet<>();
-        for (String row : text.toString().split("\n")) {
-            Matcher heading = head.matcher(row);
+        for (String row : codeOf(type).split("\n")) {
+            Matcher heading = HEAD.matcher(row);
             Matcher calling = call.matcher(row);
             if (heading.find()) {
                 String name = heading.group(1).equals(type.getName()) ? "\"<init>\"" : heading.group(1);
